@@ -519,12 +519,9 @@ public final class BlindHunts {
         }
 
         int addPlace(int color) {
-            int added = places;
-            colors[added] = color;
-            roads[added] = 0;
-            open[added] = 0;
+            colors[places] = color;
             places++;
-            return added;
+            return places - 1;
         }
 
         boolean hasRoad(int one, int other) {
@@ -707,11 +704,22 @@ public final class BlindHunts {
         private boolean solveLevel(Moves moves, int level) {
             boolean any = false;
             for (int set = 1; set < moves.sets; set++) {
-                if (needs[set] == NOT_SURE && settle(moves, set, level)) {
+                if (needs[set] == NOT_SURE && partsAreSure(set) && settle(moves, set, level)) {
                     any = true;
                 }
             }
             return any;
+        }
+
+        /** Checks that catch the hare for sure do so for every part of the belief: a part that is not sure ends it. */
+        private boolean partsAreSure(int belief) {
+            for (int place = 0; place < MOST_PLACES; place++) {
+                boolean believed = ((belief >> place) & 1) == 1;
+                if (believed && needs[belief & ~(1 << place)] == NOT_SURE) {
+                    return false;
+                }
+            }
+            return true;
         }
 
         private boolean settle(Moves moves, int belief, int level) {

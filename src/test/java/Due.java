@@ -22,6 +22,10 @@ final class Due {
         }
     }
 
+    static int asked() {
+        return asked;
+    }
+
     static int wrong() {
         return wrong;
     }

@@ -429,6 +429,12 @@ final class PromisesTest {
         Due.is("undone", ring.sure(15, 0), 2);
         ring.place(0);
         Due.is("a fifth place", ring.sure(31, 0), 3);
+        BlindHunts apart = country("000", 0, 1);
+        Due.is("three places, one road", apart.sure(7, 0), 3);
+        apart.road(1, 2);
+        Due.is("a second road", apart.sure(7, 0), 2);
+        apart.road(0, 2);
+        Due.is("a third road", apart.sure(7, 0), MISSING);
     }
 
     private static void sureByKinds() {
@@ -664,6 +670,22 @@ final class PromisesTest {
         Due.is("nothing is left", x.undo(), IMPOSSIBLE);
         Due.is("place", x.place(3), 0);
         Due.is("color", x.placeOf(0, 0), 3);
+        for (int changes = 1; changes <= 6; changes++) {
+            undoAll(changes);
+        }
+    }
+
+    private static void undoAll(int changes) {
+        BlindHunts x = new BlindHunts();
+        for (int i = 0; i < changes; i++) {
+            x.place(0);
+            Due.is("states behind " + i, x.count(6), Math.min(i + 1, 4));
+        }
+        for (int i = 1; i <= Math.min(changes, 4); i++) {
+            Due.is("undo " + i + " of " + changes, x.undo(), Math.min(changes, 4) - i);
+            Due.is("places", x.count(0), changes - i);
+        }
+        Due.is("undo once more", x.undo(), IMPOSSIBLE);
     }
 
     private static void history() {
@@ -759,6 +781,8 @@ final class PromisesTest {
             faultIs(x, "01:0;:0;" + text, 8, 1);
         }
         faultIs(x, "9:0;012", 0, 2);
+        faultIs(x, "0:0;", MISSING, MISSING);
+        faultIs(x, "0:0", 0, 1);
         faultIs(x, ":0;:0;:0;:0;:0;:0;:0;:0;:0;:0;:0;:0;:0;:0;:0;:0;:0;:0;:0;:0;", MISSING, MISSING);
         faultIs(x, ":0;:0;:0;:0;:0;:0;:0;:0;:0;:0;:0;:0;:0;:0;:0;:0;:0;:0;:0;0:0", 57, 1);
     }
