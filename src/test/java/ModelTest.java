@@ -3,7 +3,7 @@ final class ModelTest {
     private static final int RUNS = 500;
     /** Nothing is promised of an object behind 512 calls; the last ones are for the look at the whole state. */
     private static final int CALLS = 450;
-    private static final int[] ODD = {-1, Integer.MIN_VALUE, Integer.MAX_VALUE, 4, 7, 8, 19, 23, 128, -2, 41, 60, 1000, 65536};
+    private static final int[] ODD = {-1, 2, 3, 5, 16, 127, Integer.MIN_VALUE, Integer.MAX_VALUE, 4, 7, 8, 19, 23, 128, -2, 41, 60, 1000, 65536};
 
     private final Draws draws;
     private final BlindHunts x = new BlindHunts();
