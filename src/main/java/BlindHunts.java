@@ -626,9 +626,6 @@ public final class BlindHunts {
         void build(State state) {
             sets = state.sets();
             shy = state.settings[HARE] == SHY;
-            for (int signal = 0; signal <= ALL_SIGNALS; signal++) {
-                gone[signal][0] = 0;
-            }
             for (int place = 0; place < state.places; place++) {
                 buildPlace(state, place);
             }
@@ -651,7 +648,7 @@ public final class BlindHunts {
             }
         }
 
-        /** Tells the sets whose highest place is the given one, from those of the lower places. */
+        /** Tells the sets whose highest place is the given one, from those of the lower places; the empty one stays 0. */
         private void spread(int signal, int self) {
             for (int lower = 0; lower < self; lower++) {
                 gone[signal][lower | self] = gone[signal][lower] | targets[signal];

@@ -47,41 +47,6 @@ final class PromisesTest {
         Due.end("PromisesTest");
     }
 
-    /** Places with these colors and roads, told as pairs of places. */
-    private static BlindHunts country(String colors, int... ends) {
-        BlindHunts x = new BlindHunts();
-        for (int i = 0; i < colors.length(); i++) {
-            x.place(colors.charAt(i) - '0');
-        }
-        for (int i = 0; i + 1 < ends.length; i += 2) {
-            x.road(ends[i], ends[i + 1]);
-        }
-        return x;
-    }
-
-    private static BlindHunts row(int places) {
-        int[] ends = new int[2 * (places - 1)];
-        for (int i = 0; i + 1 < places; i++) {
-            ends[2 * i] = i;
-            ends[2 * i + 1] = i + 1;
-        }
-        return country("0000000".substring(0, places), ends);
-    }
-
-    private static BlindHunts settings(BlindHunts x, int hare, int signals, int budget) {
-        x.set(0, hare);
-        x.set(1, signals);
-        x.set(2, budget);
-        return x;
-    }
-
-    private static void write(BlindHunts x, String text) {
-        x.clearText();
-        for (int i = 0; i < text.length(); i++) {
-            x.type(text.charAt(i));
-        }
-    }
-
     private static void constants() {
         Due.at("constants");
         Due.is("INVALID_ARGUMENT", BlindHunts.INVALID_ARGUMENT, -1000001);
@@ -124,7 +89,7 @@ final class PromisesTest {
         Due.is("an eighth place of no color", x.place(4), INVALID);
         Due.is("count(0)", x.count(0), 7);
         Due.is("count(6)", x.count(6), 4);
-        BlindHunts y = country("00");
+        BlindHunts y = Given.country("00");
         y.believe(3);
         Due.is("check(1, 0)", y.check(1, 0), 1);
         Due.is("place(2)", y.place(2), 2);
@@ -136,7 +101,7 @@ final class PromisesTest {
 
     private static void road() {
         Due.at("promise 3");
-        BlindHunts x = country("0123");
+        BlindHunts x = Given.country("0123");
         Due.is("road(0, 1)", x.road(0, 1), 1);
         Due.is("road(3, 1)", x.road(3, 1), 2);
         Due.is("road(0, 1) again", x.road(0, 1), IMPOSSIBLE);
@@ -159,7 +124,7 @@ final class PromisesTest {
 
     private static void shut() {
         Due.at("promise 4");
-        BlindHunts x = country("000", 0, 1, 1, 2);
+        BlindHunts x = Given.country("000", 0, 1, 1, 2);
         Due.is("shut(0, 1, 0), it is open", x.shut(0, 1, 0), IMPOSSIBLE);
         Due.is("shut(1, 0, 1)", x.shut(1, 0, 1), 1);
         Due.is("shut(0, 1, 1), it is shut", x.shut(0, 1, 1), IMPOSSIBLE);
@@ -201,7 +166,7 @@ final class PromisesTest {
 
     private static void believe() {
         Due.at("promise 6");
-        BlindHunts x = row(3);
+        BlindHunts x = Given.row(3);
         Due.is("believe(5)", x.believe(5), 2);
         Due.is("count(3)", x.count(3), 5);
         x.check(1, 0);
@@ -219,7 +184,7 @@ final class PromisesTest {
 
     private static void check() {
         Due.at("promise 7");
-        BlindHunts x = row(3);
+        BlindHunts x = Given.row(3);
         Due.is("check(0, 0), empty belief", x.check(0, 0), IMPOSSIBLE);
         Due.is("check(3, 0), empty belief, over the budget", x.check(3, 0), INVALID);
         x.believe(7);
@@ -248,29 +213,29 @@ final class PromisesTest {
     private static void checkByKinds() {
         Due.at("promise 7, kinds");
         // A ring of four with colors 0 to 3 and a place apart.
-        BlindHunts x = settings(country("01230", 0, 1, 1, 2, 2, 3, 3, 0), 0, 1, 1);
+        BlindHunts x = Given.settings(Given.country("01230", 0, 1, 1, 2, 2, 3, 3, 0), 0, 1, 1);
         x.believe(31);
         Due.is("color 1 is heard", x.check(1, 1), 1);
         Due.is("belief", x.count(3), 2);
         x.believe(31);
         Due.is("color 0 is heard of both places", x.check(0, 0), 2);
         Due.is("belief", x.count(3), 17);
-        settings(x, 0, 2, 1);
+        Given.settings(x, 0, 2, 1);
         x.believe(31);
         Due.is("it stays only apart", x.check(0, 0), 1);
         Due.is("belief", x.count(3), 16);
         x.believe(31);
         Due.is("it moves on the ring", x.check(0, 1), 4);
         Due.is("belief", x.count(3), 15);
-        settings(x, 3, 2, 2);
+        Given.settings(x, 3, 2, 2);
         x.believe(1);
         Due.is("a shy one does not move there", x.check(10, 1), IMPOSSIBLE);
         Due.is("a shy one stays", x.check(10, 0), 1);
         Due.is("belief", x.count(3), 1);
-        settings(x, 1, 2, 2);
+        Given.settings(x, 1, 2, 2);
         Due.is("a calm one moves there", x.check(10, 1), 2);
         Due.is("belief", x.count(3), 10);
-        settings(x, 1, 3, 2);
+        Given.settings(x, 1, 3, 2);
         x.believe(31);
         Due.is("no roads", x.check(0, 0), 1);
         x.believe(31);
@@ -279,7 +244,7 @@ final class PromisesTest {
 
     private static void placeOf() {
         Due.at("promise 8");
-        BlindHunts x = country("3120", 0, 1, 1, 2, 2, 3);
+        BlindHunts x = Given.country("3120", 0, 1, 1, 2, 2, 3);
         x.shut(1, 2, 1);
         x.believe(6);
         Due.is("color of 0", x.placeOf(0, 0), 3);
@@ -305,7 +270,7 @@ final class PromisesTest {
 
     private static void leaping() {
         Due.at("promise 8, leaping");
-        BlindHunts x = settings(row(5), 2, 0, 1);
+        BlindHunts x = Given.settings(Given.row(5), 2, 0, 1);
         Due.is("from 0", x.placeOf(0, 3), 7);
         Due.is("from 1", x.placeOf(1, 3), 15);
         Due.is("from 2", x.placeOf(2, 3), 31);
@@ -319,7 +284,7 @@ final class PromisesTest {
 
     private static void roundOf() {
         Due.at("promise 9");
-        BlindHunts x = settings(row(4), 1, 1, 1);
+        BlindHunts x = Given.settings(Given.row(4), 1, 1, 1);
         x.believe(15);
         Due.is("no round yet", x.roundOf(0, 0), MISSING);
         x.check(1, 0);
@@ -350,7 +315,7 @@ final class PromisesTest {
 
     private static void behind() {
         Due.at("promise 10");
-        BlindHunts x = country("0102", 0, 1, 1, 2, 2, 3);
+        BlindHunts x = Given.country("0102", 0, 1, 1, 2, 2, 3);
         Due.is("all together", x.behind(15, 2, -1), 14);
         Due.is("kind 0 hears 0 alone", x.behind(15, 2, 0), 14);
         Due.is("kind 0 never hears 1", x.behind(15, 2, 1), 0);
@@ -373,7 +338,7 @@ final class PromisesTest {
     private static void behindByKinds() {
         Due.at("promise 10, kinds");
         // A star around 0 with five ends; 6 stands apart.
-        BlindHunts x = country("0123012", 0, 1, 0, 2, 0, 3, 0, 4, 0, 5);
+        BlindHunts x = Given.country("0123012", 0, 1, 0, 2, 0, 3, 0, 4, 0, 5);
         Due.is("restless, from the middle", x.behind(1, 0, -1), 62);
         Due.is("restless, apart", x.behind(64, 0, -1), 64);
         x.set(1, 3);
@@ -386,12 +351,12 @@ final class PromisesTest {
         Due.is("three roads", x.behind(2, 0, 3), 1);
         x.shut(0, 3, 1);
         Due.is("shut roads are not heard", x.behind(2, 0, 2), 1);
-        settings(x, 3, 0, 1);
+        Given.settings(x, 3, 0, 1);
         Due.is("shy, middle checked", x.behind(6, 1, -1), 6);
         Due.is("shy, an end checked", x.behind(3, 4, -1), 3);
         x.set(0, 1);
         Due.is("calm, middle checked", x.behind(6, 1, -1), 7);
-        settings(x, 1, 2, 1);
+        Given.settings(x, 1, 2, 1);
         Due.is("calm, heard to stay", x.behind(3, 0, 0), 3);
         Due.is("calm, heard to move", x.behind(3, 0, 1), 7);
         Due.is("never heard", x.behind(3, 0, 2), 0);
@@ -399,7 +364,7 @@ final class PromisesTest {
 
     private static void sure() {
         Due.at("promise 11");
-        BlindHunts x = row(3);
+        BlindHunts x = Given.row(3);
         Due.is("sure(0, 0)", x.sure(0, 0), 0);
         Due.is("sure(0, 1)", x.sure(0, 1), 0);
         Due.is("sure(7, 0)", x.sure(7, 0), 2);
@@ -411,7 +376,7 @@ final class PromisesTest {
         Due.is("sure(-1, 0)", x.sure(-1, 0), INVALID);
         Due.is("sure(1, 2)", x.sure(1, 2), INVALID);
         Due.is("sure(1, -1)", x.sure(1, -1), INVALID);
-        BlindHunts ring = country("0000", 0, 1, 1, 2, 2, 3, 3, 0);
+        BlindHunts ring = Given.country("0000", 0, 1, 1, 2, 2, 3, 3, 0);
         Due.is("a ring", ring.sure(15, 0), MISSING);
         Due.is("a ring, best check", ring.sure(15, 1), MISSING);
         Due.is("a ring, two across", ring.sure(5, 0), MISSING);
@@ -429,7 +394,7 @@ final class PromisesTest {
         Due.is("undone", ring.sure(15, 0), 2);
         ring.place(0);
         Due.is("a fifth place", ring.sure(31, 0), 3);
-        BlindHunts apart = country("000", 0, 1);
+        BlindHunts apart = Given.country("000", 0, 1);
         Due.is("three places, one road", apart.sure(7, 0), 3);
         apart.road(1, 2);
         Due.is("a second road", apart.sure(7, 0), 2);
@@ -439,7 +404,7 @@ final class PromisesTest {
 
     private static void sureByKinds() {
         Due.at("promise 11, kinds");
-        BlindHunts two = country("00", 0, 1);
+        BlindHunts two = Given.country("00", 0, 1);
         Due.is("restless", two.sure(3, 0), 2);
         Due.is("restless, best", two.sure(3, 1), 1);
         two.set(0, 1);
@@ -447,25 +412,25 @@ final class PromisesTest {
         two.set(1, 2);
         Due.is("calm, moves are heard", two.sure(3, 0), 2);
         Due.is("calm, moves are heard, best", two.sure(3, 1), 1);
-        settings(two, 3, 0, 1);
+        Given.settings(two, 3, 0, 1);
         Due.is("shy", two.sure(3, 0), 2);
         Due.is("shy, best", two.sure(3, 1), 1);
-        settings(two, 2, 0, 1);
+        Given.settings(two, 2, 0, 1);
         Due.is("leaping", two.sure(3, 0), MISSING);
-        settings(two, 2, 3, 1);
+        Given.settings(two, 2, 3, 1);
         Due.is("leaping, alike roads", two.sure(3, 0), MISSING);
-        BlindHunts colors = settings(country("01", 0, 1), 2, 1, 1);
+        BlindHunts colors = Given.settings(Given.country("01", 0, 1), 2, 1, 1);
         Due.is("colors are heard", colors.sure(3, 0), 2);
         Due.is("colors are heard, best", colors.sure(3, 1), 0);
         // With the middle and one end checked, a shy hare at one of the other ends stays there.
-        BlindHunts star = settings(country("0000", 0, 1, 0, 2, 0, 3), 3, 0, 2);
+        BlindHunts star = Given.settings(Given.country("0000", 0, 1, 0, 2, 0, 3), 3, 0, 2);
         Due.is("shy on a star", star.sure(15, 0), 2);
         Due.is("shy on a star, best", star.sure(15, 1), 3);
     }
 
     private static void deaf() {
         Due.at("promise 12");
-        BlindHunts x = settings(country("0120", 0, 1, 1, 2, 2, 3), 0, 1, 1);
+        BlindHunts x = Given.settings(Given.country("0120", 0, 1, 1, 2, 2, 3), 0, 1, 1);
         Due.is("deaf(15)", x.deaf(15), 4);
         Due.is("sure(15, 0)", x.sure(15, 0), 2);
         Due.is("deaf(0)", x.deaf(0), 0);
@@ -485,13 +450,13 @@ final class PromisesTest {
 
     private static void memory() {
         Due.at("promise 13");
-        BlindHunts x = row(4);
+        BlindHunts x = Given.row(4);
         Due.is("memory(15)", x.memory(15), 4);
         Due.is("memory(0)", x.memory(0), 0);
         Due.is("memory(8)", x.memory(8), 1);
         Due.is("memory(16)", x.memory(16), INVALID);
         Due.is("memory(-1)", x.memory(-1), INVALID);
-        BlindHunts ring = country("0123", 0, 1, 1, 2, 2, 3, 3, 0);
+        BlindHunts ring = Given.country("0123", 0, 1, 1, 2, 2, 3, 3, 0);
         Due.is("not for sure", ring.memory(15), MISSING);
         ring.set(1, 1);
         // Nothing is checked at first: each of the four places can be heard alone.
@@ -499,7 +464,7 @@ final class PromisesTest {
         Due.is("colors, one place", ring.memory(4), 1);
         Due.is("colors, two places side by side", ring.memory(3), 5);
         Due.is("colors, two places across", ring.memory(5), 3);
-        BlindHunts same = settings(country("0101", 0, 1, 1, 2, 2, 3, 3, 0), 0, 1, 2);
+        BlindHunts same = Given.settings(Given.country("0101", 0, 1, 1, 2, 2, 3, 3, 0), 0, 1, 2);
         // Each signal leaves two places across, which are checked at once.
         Due.is("two checks", same.memory(15), 3);
     }
@@ -515,7 +480,7 @@ final class PromisesTest {
         Due.is("beliefs(-1)", none.beliefs(-1), INVALID);
         Due.is("beliefs(5)", none.beliefs(5), INVALID);
         Due.is("beliefs(HIGH)", none.beliefs(HIGH), INVALID);
-        BlindHunts x = country("0000", 0, 1, 1, 2, 2, 3, 3, 0);
+        BlindHunts x = Given.country("0000", 0, 1, 1, 2, 2, 3, 3, 0);
         Due.is("a ring: 0", x.beliefs(0), 15);
         Due.is("a ring: 1", x.beliefs(1), 4);
         Due.is("a ring: 2", x.beliefs(2), 1);
@@ -526,7 +491,7 @@ final class PromisesTest {
         Due.is("two checks: 2", x.beliefs(2), 2);
         Due.is("two checks: 3", x.beliefs(3), 7);
         Due.is("two checks: 4", x.beliefs(4), 15);
-        BlindHunts colors = settings(country("0123", 0, 1, 1, 2, 2, 3, 3, 0), 1, 1, 1);
+        BlindHunts colors = Given.settings(Given.country("0123", 0, 1, 1, 2, 2, 3, 3, 0), 1, 1, 1);
         Due.is("colors: 1", colors.beliefs(1), 15);
         Due.is("colors: 2", colors.beliefs(2), 2);
         Due.is("colors: 3", colors.beliefs(3), 3);
@@ -536,7 +501,7 @@ final class PromisesTest {
     private static void dangers() {
         Due.at("promise 15");
         // A triangle with a tail, and a place apart.
-        BlindHunts x = country("00000", 0, 1, 1, 2, 2, 0, 2, 3);
+        BlindHunts x = Given.country("00000", 0, 1, 1, 2, 2, 0, 2, 3);
         Due.is("dangers(0)", x.dangers(0), 0);
         Due.is("dangers(1)", x.dangers(1), 2 | 4);
         Due.is("dangers(16)", x.dangers(16), 0);
@@ -557,7 +522,7 @@ final class PromisesTest {
 
     private static void ways() {
         Due.at("promise 16");
-        BlindHunts x = row(3);
+        BlindHunts x = Given.row(3);
         x.believe(3);
         Due.is("ways(0, 0)", x.ways(0, 0), 1);
         Due.is("ways(0, 2)", x.ways(0, 2), 0);
@@ -586,7 +551,7 @@ final class PromisesTest {
     private static void waysLimit() {
         Due.at("promise 16, limit");
         // Two places and a calm hare: from one place there are 2 to the (n - 1) ways to each.
-        BlindHunts x = settings(country("0000000", 0, 1, 0, 2, 0, 3, 1, 2, 1, 3, 2, 3), 1, 0, 1);
+        BlindHunts x = Given.settings(Given.country("0000000", 0, 1, 0, 2, 0, 3, 1, 2, 1, 3, 2, 3), 1, 0, 1);
         x.believe(1);
         Due.is("4 to the 31", x.ways(32, 0), 1L << 62);
         Due.is("4 to the 32", x.ways(33, 0), LIMIT);
@@ -601,7 +566,7 @@ final class PromisesTest {
 
     private static void met() {
         Due.at("promise 17");
-        BlindHunts x = row(3);
+        BlindHunts x = Given.row(3);
         x.believe(3);
         Due.is("met(0, 1, 0)", x.met(0, 1, 0), 1);
         Due.is("met(0, 1, 1)", x.met(0, 1, 1), 2);
@@ -624,11 +589,11 @@ final class PromisesTest {
 
     private static void count() {
         Due.at("promise 18");
-        BlindHunts x = settings(country("012", 0, 1, 1, 2), 1, 3, 2);
+        BlindHunts x = Given.settings(Given.country("012", 0, 1, 1, 2), 1, 3, 2);
         x.shut(0, 1, 1);
         x.believe(7);
         x.check(1, 1);
-        write(x, "0:0");
+        Given.write(x, "0:0");
         long[] want = {3, 2, 1, 6, 1, 0, 4, 3};
         for (int what = 0; what < want.length; what++) {
             Due.is("count(" + what + ")", x.count(what), want[what]);
@@ -658,7 +623,7 @@ final class PromisesTest {
         x.place(1);
         x.place(2);
         x.road(0, 1);
-        write(x, "1:0;");
+        Given.write(x, "1:0;");
         Due.is("undo the road", x.undo(), 2);
         Due.is("roads", x.count(1), 0);
         Due.is("the text stays", x.count(7), 4);
@@ -690,8 +655,8 @@ final class PromisesTest {
 
     private static void history() {
         Due.at("promise 19, history");
-        BlindHunts x = row(3);
-        settings(x, 1, 2, 2);
+        BlindHunts x = Given.row(3);
+        Given.settings(x, 1, 2, 2);
         x.believe(7);
         x.check(1, 1);
         x.check(9, 0);
@@ -744,11 +709,11 @@ final class PromisesTest {
 
     private static void clearText() {
         Due.at("promise 21");
-        BlindHunts x = row(2);
+        BlindHunts x = Given.row(2);
         x.believe(3);
         int states = x.count(6);
         Due.is("empty", x.clearText(), 0);
-        write(x, "0:0;9");
+        Given.write(x, "0:0;9");
         Due.is("clearText()", x.clearText(), 5);
         Due.is("count(7)", x.count(7), 0);
         Due.is("again", x.clearText(), 0);
@@ -759,7 +724,7 @@ final class PromisesTest {
     }
 
     private static void faultIs(BlindHunts x, String text, int position, int reason) {
-        write(x, text);
+        Given.write(x, text);
         Due.is("fault(0) of " + text, x.fault(0), position);
         Due.is("fault(1) of " + text, x.fault(1), reason);
         if (reason != MISSING) {
@@ -769,7 +734,7 @@ final class PromisesTest {
 
     private static void faultOfForm() {
         Due.at("promise 22, form");
-        BlindHunts x = settings(row(3), 1, 0, 2);
+        BlindHunts x = Given.settings(Given.row(3), 1, 0, 2);
         x.believe(7);
         Due.is("fault(-1)", x.fault(-1), INVALID);
         Due.is("fault(2)", x.fault(2), INVALID);
@@ -789,7 +754,7 @@ final class PromisesTest {
 
     private static void faultOfPlaces() {
         Due.at("promise 22, places");
-        BlindHunts x = settings(row(3), 1, 0, 1);
+        BlindHunts x = Given.settings(Given.row(3), 1, 0, 1);
         x.believe(7);
         faultIs(x, "2:0;", MISSING, MISSING);
         faultIs(x, "3:0;", 0, 2);
@@ -811,7 +776,7 @@ final class PromisesTest {
 
     private static void faultOfRound() {
         Due.at("promise 22, rounds");
-        BlindHunts x = settings(country("012", 0, 1, 1, 2), 0, 1, 1);
+        BlindHunts x = Given.settings(Given.country("012", 0, 1, 1, 2), 0, 1, 1);
         faultIs(x, "0:0;", 0, 3);
         x.believe(7);
         faultIs(x, "0:0;", MISSING, MISSING);
@@ -830,9 +795,9 @@ final class PromisesTest {
 
     private static void play() {
         Due.at("promise 23");
-        BlindHunts x = settings(country("012", 0, 1, 1, 2), 0, 1, 1);
+        BlindHunts x = Given.settings(Given.country("012", 0, 1, 1, 2), 0, 1, 1);
         x.believe(7);
-        write(x, ":1;0:2;2:3;");
+        Given.write(x, ":1;0:2;2:3;");
         Due.is("play()", x.play(), 3);
         Due.is("the text stays", x.count(7), 11);
         Due.is("one change", x.count(6), 4);
@@ -847,7 +812,7 @@ final class PromisesTest {
         Due.is("undo()", x.undo(), 3);
         Due.is("belief, undone", x.count(3), 7);
         Due.is("rounds, undone", x.count(4), 0);
-        write(x, ":1;:1;");
+        Given.write(x, ":1;:1;");
         Due.is("play() of a fault", x.play(), IMPOSSIBLE);
         Due.is("belief, not played", x.count(3), 7);
         BlindHunts none = new BlindHunts();
@@ -855,16 +820,16 @@ final class PromisesTest {
         Due.is("a change", none.count(6), 1);
         Due.is("undo()", none.undo(), 0);
         x.check(0, 1);
-        write(x, ":0;");
+        Given.write(x, ":0;");
         Due.is("play() goes on", x.play(), 1);
         Due.is("rounds", x.count(4), 2);
     }
 
     private static void manyRounds() {
         Due.at("many rounds");
-        BlindHunts x = settings(row(3), 1, 0, 1);
+        BlindHunts x = Given.settings(Given.row(3), 1, 0, 1);
         x.believe(7);
-        write(x, ":0;0:0;1:0;2:0;:0;0:0;1:0;2:0;:0;0:0;1:0;2:0;:0;0:0;1:0;");
+        Given.write(x, ":0;0:0;1:0;2:0;:0;0:0;1:0;2:0;:0;0:0;1:0;2:0;:0;0:0;1:0;");
         Due.is("play()", x.play(), 15);
         Due.is("play() once more", x.play(), 15);
         Due.is("rounds", x.count(4), 30);
