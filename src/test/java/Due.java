@@ -2,6 +2,7 @@
 final class Due {
     private static int asked;
     private static int wrong;
+    private static int wrongHere;
     private static String place = "";
 
     private Due() {
@@ -10,13 +11,16 @@ final class Due {
     /** Names what the next answers belong to. */
     static void at(String where) {
         place = where;
+        wrongHere = 0;
     }
 
     static void is(String call, long got, long want) {
         asked++;
         if (got != want) {
             wrong++;
-            if (wrong <= 40) {
+            wrongHere++;
+            // The first ones of each place tell enough.
+            if (wrongHere <= 5) {
                 System.out.println(place + ": " + call + " answered " + got + ", due is " + want);
             }
         }

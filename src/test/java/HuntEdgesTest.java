@@ -326,6 +326,14 @@ final class HuntEdgesTest {
         Due.is("sure(8, 0)", Given.row(4).sure(8, 0), 1);
     }
 
+    @Of(promise = 11, says = {"1: its best check", "as many as the budget tells at most"})
+    static void sureCheckOfLessPlacesThanTheBudgetTells() {
+        BlindHunts x = Given.settings(Given.complete(7), 0, 0, 2);
+        Due.is("sure(64, 0)", x.sure(64, 0), 1);
+        Due.is("sure(64, 1)", x.sure(64, 1), 64);
+        Due.is("sure(1, 1)", x.sure(1, 1), 1);
+    }
+
     @Of(promise = 11, says = {"1: its best check", "a check (of any places"})
     static void sureCheckHoldsAPlaceOutsideTheBelief() {
         // With 0 checked a shy hare at 2 stays there, so that 2 and 3 are left for the second round.

@@ -76,6 +76,17 @@ final class RoundEdgesTest {
         Due.is("roundOf(0, 0)", x.roundOf(0, 0), MISSING);
     }
 
+    @Of(promise = 6, says = {"Lets the hunter believe something", "The changes are the calls of place, road, shut, set, believe, check and play that return no error"})
+    static void believeWhatIsBelievedAlreadyIsAChangeToo() {
+        BlindHunts x = new BlindHunts();
+        Due.is("believe(0)", x.believe(0), 0);
+        Due.is("count(6)", x.count(6), 1);
+        x.place(0);
+        x.believe(1);
+        Due.is("believe(1) again", x.believe(1), 1);
+        Due.is("count(6)", x.count(6), 4);
+    }
+
     @Of(promise = 6, says = {"INVALID_ARGUMENT", "A call that returns an error changes nothing"})
     static void believeInNoPlaceChangesNothing() {
         Look.refused(Given::busy, "believe(16)", x -> x.believe(16), INVALID);

@@ -429,6 +429,18 @@ final class TextEdgesTest {
         Due.is("count(4)", x.count(4), 40);
     }
 
+    @Of(promise = 23, says = {"Makes all rounds of the text", "which stays"})
+    static void playAsOftenAsAnObjectCanBeCalled() {
+        BlindHunts x = fullText();
+        for (int played = 1; played <= 430; played++) {
+            Due.is("play() " + played, x.play(), 20);
+        }
+        Due.is("count(4)", x.count(4), 8600);
+        Due.is("roundOf(7, 0)", x.roundOf(7, 0), 0);
+        Due.is("undo()", x.undo(), 3);
+        Due.is("count(4), one undone", x.count(4), 8580);
+    }
+
     @Of(promise = 23, says = {"They are one change", "each change records everything before it but the text"})
     static void playOfManyRoundsIsOneChange() {
         BlindHunts x = fullText();
