@@ -76,8 +76,10 @@ final class CountryEdgesTest {
         BlindHunts x = new BlindHunts();
         Given.full();
         BlindHunts y = new BlindHunts();
-        Look.same("another object is full", x, new BlindHunts());
-        Look.same("an object made behind a full one", y, new BlindHunts());
+        for (int what = 0; what <= 7; what++) {
+            Due.is("count(" + what + ") of an object made ahead of a full one", x.count(what), 0);
+            Due.is("count(" + what + ") of an object made behind a full one", y.count(what), 0);
+        }
     }
 
     // ---- promise 2

@@ -10,9 +10,8 @@ final class Look {
 
     /** The call is answered by the error, and the object is then like one for which it was not made. */
     static void refused(Supplier<BlindHunts> given, String name, ToLongFunction<BlindHunts> call, long error) {
-        BlindHunts called = given.get();
-        Due.is(name, call.applyAsLong(called), error);
-        same(name, called, given.get());
+        Due.is(name, call.applyAsLong(given.get()), error);
+        unchanged(given, name, call);
     }
 
     /** The object is behind the call like one for which it was not made. */
@@ -20,6 +19,12 @@ final class Look {
         BlindHunts called = given.get();
         call.applyAsLong(called);
         same(name, called, given.get());
+        // A call that records a state can be one that is asked for the comparison too: this comes ahead of it.
+        BlindHunts undone = given.get();
+        call.applyAsLong(undone);
+        BlindHunts like = given.get();
+        Due.is(name + ": undo() behind it", undone.undo(), like.undo());
+        same(name + ", undone", undone, like);
     }
 
     /** Uses both objects up. */
