@@ -23,7 +23,8 @@ final class Edges {
     static void run(Class<?> type) throws IllegalAccessException, InvocationTargetException {
         for (Method test : testsOf(type)) {
             int asked = Due.asked();
-            Due.at("promise " + test.getAnnotation(Of.class).promise() + ", " + test.getName());
+            int promise = test.getAnnotation(Of.class).promise();
+            Due.at((promise == 0 ? "terms" : "promise " + promise) + ", " + test.getName());
             test.invoke(null);
             Due.is("it asks something", Due.asked() > asked ? 1 : 0, 1);
         }

@@ -349,7 +349,65 @@ final class HuntEdgesTest {
         Look.unchanged(Given::busy, "sure(16, 0)", x -> x.sure(16, 0));
     }
 
+    /** Six places with a ring of three, a way off it, and one apart, so that beliefs of all sorts come; settings from 0 to 31. */
+    private static BlindHunts mixed(int settings) {
+        BlindHunts x = Given.country("012010", 0, 1, 1, 2, 2, 0, 2, 3, 3, 4);
+        return Given.settings(x, settings & 3, (settings >> 2) & 3, 1 + (settings >> 4));
+    }
+
+    /**
+     * The least number and the lowest check by which it comes, found for a belief by the words of "For sure"
+     * from the rounds that the beliefs behind its checks need.
+     */
+    private static int[] byWords(BlindHunts x, int belief, int[] rounds, boolean hears) {
+        int[] found = {MISSING, MISSING};
+        int budget = x.count(22);
+        for (int places = 0; places <= 63; places++) {
+            int most = Integer.bitCount(places) <= budget ? 0 : MISSING;
+            for (int signal = hears ? 0 : -1; signal <= (hears ? 3 : -1) && most != MISSING; signal++) {
+                int needed = rounds[x.behind(belief, places, signal)];
+                most = needed == MISSING ? MISSING : Math.max(most, needed);
+            }
+            if (most != MISSING && (found[0] == MISSING || most + 1 < found[0])) {
+                found[0] = most + 1;
+                found[1] = places;
+            }
+        }
+        return found;
+    }
+
+    private static void eachBeliefIsAsItsWordsSay(boolean hears) {
+        for (int settings = 0; settings <= 31; settings++) {
+            BlindHunts asked = mixed(settings);
+            int[] rounds = new int[64];
+            for (int belief = 0; belief <= 63; belief++) {
+                rounds[belief] = hears ? asked.sure(belief, 0) : asked.deaf(belief);
+            }
+            Due.is("settings " + settings + ", rounds of 0", rounds[0], 0);
+            for (int belief = 1; belief <= 63; belief++) {
+                int[] words = byWords(mixed(settings), belief, rounds, hears);
+                Due.is("settings " + settings + ", rounds of " + belief, rounds[belief], words[0]);
+                if (hears) {
+                    Due.is("settings " + settings + ", best check of " + belief, asked.sure(belief, 1), words[1]);
+                }
+            }
+        }
+    }
+
+    @Of(promise = 11, says = {"The rounds that a belief needs: 0 if it is empty; otherwise the least number n for which there is a check (of any places, "
+        + "as many as the budget tells at most) by which it is caught for sure, or behind which, for each signal that can be heard, the belief needs less than n rounds",
+        "If there is no such number, it is not for sure",
+        "The best check of a belief is, of the checks by which that least n comes, the one with the lowest number as a set"})
+    static void sureOfEachBeliefIsAsItsWordsSay() {
+        eachBeliefIsAsItsWordsSay(true);
+    }
+
     // ---- promise 12
+
+    @Of(promise = 12, says = "Without hearing: likewise, but the belief behind a check is that of all signals together")
+    static void deafOfEachBeliefIsAsItsWordsSay() {
+        eachBeliefIsAsItsWordsSay(false);
+    }
 
     @Of(promise = 12, says = {"`belief`: a set of places", "INVALID_ARGUMENT", "so is a set with a bit for no place"})
     static void deafOfAPlaceOneTooLarge() {

@@ -7,9 +7,9 @@ import java.lang.annotation.Target;
 @Retention(RetentionPolicy.RUNTIME)
 @Target(ElementType.METHOD)
 @interface Of {
-    /** The number of the promise. */
+    /** The number of the promise; 0 for what the document says ahead of them. */
     int promise();
 
-    /** Words of the document, as they stand under this promise or in "Terms". */
+    /** Words of the document, as they stand under this promise or ahead of all promises. */
     String[] says();
 }

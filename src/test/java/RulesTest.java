@@ -2,13 +2,14 @@ import com.sun.source.tree.ClassTree;
 import com.sun.source.tree.CompilationUnitTree;
 import com.sun.source.tree.MethodInvocationTree;
 import com.sun.source.tree.MethodTree;
+import com.sun.source.tree.NewArrayTree;
 import com.sun.source.tree.NewClassTree;
 import com.sun.source.tree.Tree;
 import com.sun.source.tree.VariableTree;
 import com.sun.source.util.JavacTask;
 import com.sun.source.util.TreeScanner;
 import java.io.IOException;
-import java.lang.reflect.Constructor;
+import java.lang.reflect.Array;
 import java.lang.reflect.Field;
 import java.lang.reflect.Method;
 import java.lang.reflect.Modifier;
@@ -25,18 +26,19 @@ import javax.tools.JavaCompiler;
 import javax.tools.StandardJavaFileManager;
 import javax.tools.ToolProvider;
 
-/** Looks through the source of the class for what LANGUAGE.md does not allow, as far as it can be seen from its form. */
+/**
+ * Looks through the source of the class for what LANGUAGE.md does not allow, as far as it can be seen from its form;
+ * FaceEdgesTest looks at the members that are not private.
+ */
 final class RulesTest {
     private static final Path SOURCE = Path.of("src/main/java/BlindHunts.java");
     private static final Set<Tree.Kind> FORBIDDEN = EnumSet.of(
             Tree.Kind.THROW, Tree.Kind.TRY, Tree.Kind.CATCH, Tree.Kind.SYNCHRONIZED, Tree.Kind.ASSERT, Tree.Kind.IMPORT,
             Tree.Kind.PACKAGE, Tree.Kind.LAMBDA_EXPRESSION, Tree.Kind.MEMBER_REFERENCE, Tree.Kind.ANNOTATION);
     private static final Set<String> LIBRARY = Set.of("Integer.bitCount", "Math.min", "Math.max");
-    private static final String FACE = "BEHIND(int, int, int) int;BELIEFS(int) int;BELIEVE(int) int;CHECK(int, int) int;"
-            + "CLEARTEXT() int;COUNT(int) int;DANGERS(int) int;DEAF(int) int;FAULT(int) int;MEMORY(int) int;"
-            + "MET(int, int, int) long;PLACE(int) int;PLACEOF(int, int) int;PLAY() int;ROAD(int, int) int;"
-            + "ROUNDOF(int, int) int;SET(int, int) int;SHUT(int, int, int) int;SURE(int, int) int;TYPE(int) int;"
-            + "UNDO() int;WAYS(int, int) long;";
+    /** All that one object makes, which is small enough for hundreds of objects in one room. */
+    private static final int MOST_OBJECTS = 100;
+    private static final int MOST_ELEMENTS = 2500;
 
     private final Map<String, Set<String>> calls = new HashMap<>();
     private int classes;
@@ -44,38 +46,12 @@ final class RulesTest {
     private RulesTest() {
     }
 
-    public static void main(String[] args) throws IOException {
+    public static void main(String[] args) throws IOException, IllegalAccessException {
         Due.at("LANGUAGE.md");
-        face();
         staticState();
+        room();
         new RulesTest().source();
         Due.end("RulesTest");
-    }
-
-    private static void face() {
-        TreeSet<String> methods = new TreeSet<>();
-        for (Method method : BlindHunts.class.getDeclaredMethods()) {
-            if (!Modifier.isPrivate(method.getModifiers())) {
-                StringBuilder row = new StringBuilder(method.getName().toUpperCase());
-                List<String> types = new ArrayList<>();
-                for (Class<?> type : method.getParameterTypes()) {
-                    types.add(type.getName());
-                }
-                row.append('(').append(String.join(", ", types)).append(") ").append(method.getReturnType().getName());
-                methods.add(row.append(';').toString());
-                Due.is("rule 1: " + method.getName() + " is public alone", method.getModifiers(), Modifier.PUBLIC);
-            }
-        }
-        Due.is("rule 1: the face is " + String.join("", methods), String.join("", methods).equals(FACE) ? 1 : 0, 1);
-        Constructor<?>[] constructors = BlindHunts.class.getDeclaredConstructors();
-        Due.is("rule 1: constructors", constructors.length, 1);
-        Due.is("rule 1: its arguments", constructors[0].getParameterCount(), 0);
-        Due.is("rule 1: public and final", BlindHunts.class.getModifiers(), Modifier.PUBLIC | Modifier.FINAL);
-        int constants = 0;
-        for (Field field : BlindHunts.class.getDeclaredFields()) {
-            constants += Modifier.isPrivate(field.getModifiers()) ? 0 : 1;
-        }
-        Due.is("rule 1: constants", constants, 4);
     }
 
     private static void staticState() {
@@ -96,12 +72,49 @@ final class RulesTest {
         }
     }
 
+    private static void room() throws IllegalAccessException {
+        List<Object> found = new ArrayList<>(List.of(Given.busy()));
+        int elements = 0;
+        for (int i = 0; i < found.size(); i++) {
+            Object object = found.get(i);
+            List<Object> parts = object.getClass().isArray() ? elementsOf(object) : fieldsOf(object);
+            elements += parts.size();
+            for (Object part : parts) {
+                boolean number = part == null || part instanceof Number || part instanceof Boolean || part instanceof Character;
+                if (!number && !found.contains(part)) {
+                    found.add(part);
+                }
+            }
+        }
+        Due.is("room: objects and arrays, " + found.size(), found.size() > MOST_OBJECTS ? 1 : 0, 0);
+        Due.is("room: fields and elements, " + elements, elements > MOST_ELEMENTS ? 1 : 0, 0);
+    }
+
+    private static List<Object> elementsOf(Object array) {
+        List<Object> parts = new ArrayList<>();
+        for (int i = 0; i < Array.getLength(array); i++) {
+            parts.add(Array.get(array, i));
+        }
+        return parts;
+    }
+
+    private static List<Object> fieldsOf(Object object) throws IllegalAccessException {
+        List<Object> parts = new ArrayList<>();
+        for (Field field : object.getClass().getDeclaredFields()) {
+            if (!Modifier.isStatic(field.getModifiers())) {
+                field.setAccessible(true);
+                parts.add(field.get(object));
+            }
+        }
+        return parts;
+    }
+
     private void source() throws IOException {
         JavaCompiler compiler = ToolProvider.getSystemJavaCompiler();
         try (StandardJavaFileManager files = compiler.getStandardFileManager(null, null, null)) {
             JavacTask task = (JavacTask) compiler.getTask(null, files, null, null, null, files.getJavaFileObjects(SOURCE));
             for (CompilationUnitTree unit : task.parse()) {
-                new Look(unit).scan(unit, null);
+                new Look().scan(unit, null);
             }
         }
         Due.is("rule 11: classes, " + classes, classes > 12 ? 1 : 0, 0);
@@ -126,14 +139,14 @@ final class RulesTest {
     }
 
     private final class Look extends TreeScanner<Void, Void> {
-        private final CompilationUnitTree unit;
         private final Set<String> publicNames = new HashSet<>();
         private String method = "";
 
-        Look(CompilationUnitTree unit) {
-            this.unit = unit;
-            for (String row : FACE.split(";")) {
-                publicNames.add(row.substring(0, row.indexOf('(')));
+        Look() {
+            for (Method method : BlindHunts.class.getDeclaredMethods()) {
+                if (Modifier.isPublic(method.getModifiers())) {
+                    publicNames.add(method.getName());
+                }
             }
         }
 
@@ -163,13 +176,15 @@ final class RulesTest {
         public Void visitMethod(MethodTree tree, Void unused) {
             String name = tree.getName().toString();
             boolean isPublic = tree.getModifiers().getFlags().contains(javax.lang.model.element.Modifier.PUBLIC);
-            Due.is("rule 1: " + name + " bears no public name", !isPublic && publicNames.contains(name.toUpperCase()) ? 1 : 0, 0);
+            Due.is("rule 1: " + name + " bears no public name", !isPublic && publicNames.contains(name) ? 1 : 0, 0);
             Due.is("rule 11: parameters of " + name, tree.getParameters().size() > 7 ? 1 : 0, 0);
             int lines = tree.toString().split("\n").length;
             Due.is("rule 11: lines of " + name + ", " + lines, lines > 60 ? 1 : 0, 0);
             method = name;
             calls.computeIfAbsent(name, k -> new TreeSet<>());
-            return super.visitMethod(tree, unused);
+            super.visitMethod(tree, unused);
+            method = "";
+            return null;
         }
 
         @Override
@@ -187,7 +202,19 @@ final class RulesTest {
         @Override
         public Void visitNewClass(NewClassTree tree, Void unused) {
             Due.is(at("rule 2: no class without a name", tree), tree.getClassBody() == null ? 0 : 1, 0);
+            Due.is(at("rule 12: a call makes no object", tree), isCall() ? 1 : 0, 0);
             return super.visitNewClass(tree, unused);
+        }
+
+        @Override
+        public Void visitNewArray(NewArrayTree tree, Void unused) {
+            Due.is(at("rule 12: a call makes no array", tree), isCall() ? 1 : 0, 0);
+            return super.visitNewArray(tree, unused);
+        }
+
+        /** Not a constructor, nor a field. */
+        private boolean isCall() {
+            return !method.isEmpty() && !method.equals("<init>");
         }
 
         @Override

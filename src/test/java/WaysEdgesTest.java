@@ -1,4 +1,7 @@
 import java.lang.reflect.InvocationTargetException;
+import java.util.ArrayList;
+import java.util.Arrays;
+import java.util.List;
 import java.util.function.Supplier;
 import java.util.function.ToLongFunction;
 
@@ -10,6 +13,9 @@ final class WaysEdgesTest {
     private static final int MISSING = BlindHunts.NOT_FOUND;
     /** Far outside of every range; a shift or a mask would make some of them small again. */
     private static final int[] FAR = {Integer.MIN_VALUE, Integer.MAX_VALUE, 1 << 30, 128, 256, 65536, -2, -8, -128, -65536};
+
+    /** The places at which a hare of each kind can be behind a move from each place of walkers(), as sets. */
+    private static final int[][] REACHED = {{6, 5, 11, 4, 16}, {7, 7, 15, 12, 16}, {15, 15, 15, 15, 16}, {7, 7, 15, 12, 16}};
 
     private WaysEdgesTest() {
     }
@@ -145,6 +151,52 @@ final class WaysEdgesTest {
         Due.is("ways(1, 0)", x.ways(1, 0), 1);
     }
 
+    @Of(promise = 16, says = "Counts the ways of a hare: rows of places, from one of the belief on, of which each next one is one at which it can be behind a move from the one before, with nothing checked, that end at a place")
+    static void waysAreRowsOfPlaces() {
+        for (int hare = 0; hare <= 3; hare++) {
+            BlindHunts x = walkers(hare);
+            for (int moves = 0; moves <= 4; moves++) {
+                for (int place = 0; place <= 4; place++) {
+                    Due.is("kind " + hare + ", ways(" + moves + ", " + place + ")", x.ways(moves, place), rowsThatEndAt(hare, moves, place));
+                }
+            }
+        }
+    }
+
+    /** Five places, one with a shut road alone, and 0, 3 and 4 of them believed in. */
+    private static BlindHunts walkers(int hare) {
+        BlindHunts x = Given.country("01230", 0, 1, 1, 2, 2, 0, 2, 3, 3, 4);
+        x.shut(3, 4, 1);
+        return Given.believing(Given.settings(x, hare, 1, 2), 25);
+    }
+
+    private static long rowsThatEndAt(int hare, int moves, int place) {
+        long found = 0;
+        for (int[] row : rows(hare, moves)) {
+            found += row[moves] == place ? 1 : 0;
+        }
+        return found;
+    }
+
+    /** All rows of places, of so many moves, that a hare can go, each from one of the belief on. */
+    private static List<int[]> rows(int hare, int moves) {
+        List<int[]> rows = new ArrayList<>(List.of(new int[] {0}, new int[] {3}, new int[] {4}));
+        for (int i = 0; i < moves; i++) {
+            List<int[]> longer = new ArrayList<>();
+            for (int[] row : rows) {
+                for (int next = 0; next <= 4; next++) {
+                    if (((REACHED[hare][row[i]] >> next) & 1) == 1) {
+                        int[] more = Arrays.copyOf(row, i + 2);
+                        more[i + 1] = next;
+                        longer.add(more);
+                    }
+                }
+            }
+            rows = longer;
+        }
+        return rows;
+    }
+
     @Of(promise = 16, says = {"Counts the ways of a hare", "The changes are the calls of place, road, shut, set, believe, check and play that return no error"})
     static void waysChangesNothing() {
         Look.unchanged(Given::busy, "ways(40, 0)", x -> x.ways(40, 0));
@@ -249,6 +301,26 @@ final class WaysEdgesTest {
         BlindHunts x = Given.believing(Given.country("000", 0, 1), 3);
         Due.is("met(15, 2, 0)", x.met(15, 2, 0), 0);
         Due.is("met(15, 2, 1)", x.met(15, 2, 1), 2);
+    }
+
+    @Of(promise = 17, says = {"Tells by how many of the ways of some moves, with nothing checked, the hare would have met a place at the beginning or behind one of the moves",
+        "`part`: 0: how many ways", "1: of how many in all"})
+    static void metAlongTheRowsOfPlaces() {
+        for (int hare = 0; hare <= 3; hare++) {
+            BlindHunts x = walkers(hare);
+            for (int moves = 0; moves <= 4; moves++) {
+                List<int[]> rows = rows(hare, moves);
+                for (int place = 0; place <= 4; place++) {
+                    long met = 0;
+                    for (int[] row : rows) {
+                        int sought = place;
+                        met += Arrays.stream(row).anyMatch(at -> at == sought) ? 1 : 0;
+                    }
+                    Due.is("kind " + hare + ", met(" + moves + ", " + place + ", 0)", x.met(moves, place, 0), met);
+                    Due.is("kind " + hare + ", met(" + moves + ", " + place + ", 1)", x.met(moves, place, 1), rows.size());
+                }
+            }
+        }
     }
 
     @Of(promise = 17, says = "with nothing checked")
